@@ -83,9 +83,7 @@ public final class SailAsAnother {
   }
 
   public int wipe() {
-    int had = book.length;
-    book.clear();
-    return had;
+    return book.clear();
   }
 
   public int fault() {
@@ -298,13 +296,7 @@ public final class SailAsAnother {
     if (!isBelow(what, 2)) {
       return BAD;
     }
-    int had = what == 0 ? claims.size : sightings.size;
-    if (what == 0) {
-      claims.size = 0;
-    } else {
-      sightings.size = 0;
-    }
-    return had;
+    return what == 0 ? claims.clear() : sightings.clear();
   }
 
   public int could(int hull) {
@@ -638,9 +630,11 @@ public final class SailAsAnother {
       parse();
     }
 
-    void clear() {
+    int clear() {
+      int had = length;
       length = 0;
       parse();
+      return had;
     }
 
     int nameOf(int hull, int year) {
@@ -817,6 +811,12 @@ public final class SailAsAnother {
       }
     }
 
+    int clear() {
+      int had = size;
+      size = 0;
+      return had;
+    }
+
     int sumFor(int hull, int law) {
       int sum = 0;
       for (int k = 0; k < size; k++) {
@@ -884,6 +884,12 @@ public final class SailAsAnother {
         values[size] = value;
         size++;
       }
+    }
+
+    int clear() {
+      int had = size;
+      size = 0;
+      return had;
     }
 
     /** The NAMES none of whose own SIGHTINGS speaks against a HULL. */

@@ -158,6 +158,18 @@ public final class ClaimsSightingsTest {
     Check.due("29 no NAME", x.could(0), 0);
     Check.due("29 could(-2)", x.could(-2), BAD);
     Check.due("29 could(6)", x.could(6), BAD);
+    onlyRow();
+  }
+
+  private static void onlyRow() {
+    SailAsAnother x = new SailAsAnother();
+    for (int name = 0; name < 6; name++) {
+      x.seen(name, 0, 6 - name);
+    }
+    Check.due("29 one row", x.could(NONE), 1);
+    for (int hull = 0; hull < 6; hull++) {
+      Check.due("29 could(" + hull + ") by one row", x.could(hull), 1 << 5 - hull);
+    }
   }
 
   private static void impossibleNames() {

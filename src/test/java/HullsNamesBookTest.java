@@ -208,6 +208,8 @@ public final class HullsNamesBookTest {
     Check.due("8 fewer items", x.read(0), NOT);
     Check.fill(x, 0, 1, 0, 1, 2, 3, 4, 4);
     Check.due("8 a NAME twice", x.read(0), NOT);
+    Check.fill(x, 0, 1, 1, 1, 2, 3, 4, 5);
+    Check.due("8 NAME 0 lacks", x.read(0), NOT);
     Check.fill(x, 0, 1, 0, 1, 2, 3, 4, 6);
     Check.due("8 no NAME: 6", x.read(0), NOT);
     Check.fill(x, 0, 1, 0, 1, 2, 3, 4, -1);

@@ -165,6 +165,18 @@ public final class LotsTest {
     x = twoRows();
     Check.due("18 all FEES", x.best(NONE), 21);
     row("18 all FEES", bestRow(x), 5, 4, 3, 2, 0, 1);
+    x.name(0, 2, 9);
+    Check.due("18 a greater FEE of NAME 0", x.best(NONE), 29);
+    x.name(0, 2, 1);
+    for (int k = 0; k < 5; k++) {
+      x.hull(k, 1, 0);
+    }
+    Check.due("18 HULL 5 alone FITS 0 and 1", x.best(NONE), 2);
+    row("18 HULL 5 alone FITS 0 and 1", bestRow(x), 0, 2, 3, 4, 5, 1);
+    x.name(0, 2, 9);
+    Check.due("18 HULL 5 rather as 0", x.best(NONE), 9);
+    row("18 HULL 5 rather as 0", bestRow(x), 1, 2, 3, 4, 5, 0);
+    x = twoRows();
     x.name(1, 0, 9);
     Check.due("18 NAME 1 for nobody", x.best(NONE), 19);
     row("18 NAME 1 for nobody", bestRow(x), 5, 4, 3, 2, 0, 1);

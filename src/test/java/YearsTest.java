@@ -55,6 +55,21 @@ public final class YearsTest {
     x.name(1, 2, 0);
     Check.due("11 no FEE, no DEBT", x.debt(1, 3, 0), 0);
     Check.due("11 but SHAME", x.debt(1, 3, 1), 2);
+    shameByEachHull();
+  }
+
+  private static void shameByEachHull() {
+    for (int hull = 0; hull < 6; hull++) {
+      SailAsAnother x = new SailAsAnother();
+      for (int k = 0; k < 6; k++) {
+        x.name(k, 0, 1);
+      }
+      x.hull(hull, 1, 0);
+      Check.type(x, "120354");
+      for (int name = 0; name < 6; name++) {
+        Check.due("11 SHAME of " + name + " by HULL " + hull, x.debt(name, 1, 1), x.borne(hull, 0) == name ? 1 : 0);
+      }
+    }
   }
 
   private static void been() {
