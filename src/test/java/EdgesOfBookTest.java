@@ -50,7 +50,8 @@ public final class EdgesOfBookTest {
     for (int k = 0; k < 6; k++) {
       String hull = "hull(" + k + ",";
       String name = "name(" + k + ",";
-      Script.run("Terms, at first", hull + "0,9)=" + (k + 1) + " " + hull + "1,9)=5 " + name + "0,9)=3 " + name + "1,9)=5 "
+      Script.run("Terms, at first", hull + "0,9)=" + (k + 1) + " " + hull + "1,9)=5 " + name + "0,9)=3 " + name
+        + "1,9)=5 "
           + name + "2,9)=" + (k + 1));
     }
   }
@@ -83,9 +84,10 @@ public final class EdgesOfBookTest {
   private static void whatOfHullAndName() {
     Script.bounds("2 what 0, 1", Script.lived(), "hull(0,?,3)", 0, 1);
     Script.bounds("3 what 0 to 2", Script.lived(), "name(0,?,3)", 0, 2);
-    Script.run("2 one thing alone", "hull(0,0,7)=1 hull(0,1,6)=5 hull(0,0,1)=7 hull(1,0,2)=2 hull(1,1,5)=5 name(0,0,3)=3");
-    Script.run("3 one thing alone", "name(0,0,7)=3 name(0,1,6)=5 name(0,2,8)=1 name(0,0,3)=7 name(0,1,5)=6 name(1,2,2)=2 "
-        + "hull(0,0,1)=1 hull(0,1,5)=5");
+    Script.run("2 one thing alone", "hull(0,0,7)=1 hull(0,1,6)=5 hull(0,0,1)=7 hull(1,0,2)=2 hull(1,1,5)=5 "
+        + "name(0,0,3)=3");
+    Script.run("3 one thing alone", "name(0,0,7)=3 name(0,1,6)=5 name(0,2,8)=1 name(0,0,3)=7 name(0,1,5)=6 "
+        + "name(1,2,2)=2 hull(0,0,1)=1 hull(0,1,5)=5");
   }
 
   private static void fitsAtEqual() {
@@ -93,7 +95,8 @@ public final class EdgesOfBookTest {
         + "fits(0,1)=1 hull(0,0,9) name(1,0,9) fits(0,1)=1 hull(0,0,8) fits(0,1)=0 hull(0,0,1) name(1,0,1) fits(0,1)=1 "
         + "name(1,0,2) fits(0,1)=0");
     Script.run("4 HOLD the LOAD or more", "hull(5,1,4) name(1,1,4) fits(5,1)=1 hull(5,1,3) fits(5,1)=0 hull(5,1,9) "
-        + "name(1,1,9) fits(5,1)=1 hull(5,1,8) fits(5,1)=0 hull(5,1,0) name(1,1,0) fits(5,1)=1 name(1,1,1) fits(5,1)=0");
+        + "name(1,1,9) fits(5,1)=1 hull(5,1,8) fits(5,1)=0 hull(5,1,0) name(1,1,0) fits(5,1)=1 name(1,1,1) "
+        + "fits(5,1)=0");
     Script.run("4 and: both", "fits(2,0)=1 hull(2,0,2) fits(2,0)=0 hull(2,1,4) fits(2,0)=0 hull(2,0,3) fits(2,0)=0");
   }
 
@@ -114,7 +117,8 @@ public final class EdgesOfBookTest {
   private static void wiped() {
     Script.run("6 of an empty one", "wipe()=0 wipe()=0 fault()=NONE");
     Script.run("6 of a full one", "bytes(90,48)=90 wipe()=90 count(1)=0 fault()=NONE wipe()=0");
-    Script.run("6 of one with a FAULT", "text(012345;5) fault()=8 wipe()=8 fault()=NONE count(0)=0 text(543210) borne(0,0)=5");
+    Script.run("6 of one with a FAULT", "text(012345;5) fault()=8 wipe()=8 fault()=NONE count(0)=0 text(543210) "
+        + "borne(0,0)=5");
     Script.run("6 of one byte", "type(48) wipe()=1 type(49)=1");
     Script.run("6 nothing else is", Script.lived() + " wipe()=20 count(2)=4 count(3)=2 count(8)=4 lose(0)=7 lose(2)=0 "
         + "hull(0,0,1)=4 name(5,2,1)=9 text(" + Script.years(3) + ") owed(0,0)=9");
@@ -137,7 +141,8 @@ public final class EdgesOfBookTest {
   private static void unendedYear() {
     String twelve = Script.years(12);
     for (int length = 1; length <= twelve.length(); length++) {
-      faultOf("Terms, of a YEAR that is not ended, its end", twelve.substring(0, length), length % 7 == 6 ? -1 : length);
+      int want = length % 7 == 6 ? -1 : length;
+      faultOf("Terms, of a YEAR that is not ended, its end", twelve.substring(0, length), want);
     }
   }
 
@@ -197,15 +202,17 @@ public final class EdgesOfBookTest {
   }
 
   private static final String CALLS_OF_NO_YEAR = " count(0)=0 borne(0,0)!BAD purse(5,0)=0 purse(5,1)!BAD debt(0,0,0)=0 "
-      + "debt(0,0,1)=0 debt(0,1,0)!BAD been(0,0)=0 been(0,1)!BAD home(3)=NONE other(4,5)=NONE rather(0)!BAD on(0,0,0)!BAD "
-      + "returns(0,0)!BAD returns(0,NONE)!BAD owed(0,0)=0 owed(0,1)=0 owed(1,1)=0 owed(0,2)=0 lightest(0)=0 disputed()=0 "
-      + "write(0,0)!BAD count(5)=0 count(6)=0 count(7)=0 ";
+      + "debt(0,0,1)=0 debt(0,1,0)!BAD been(0,0)=0 been(0,1)!BAD home(3)=NONE other(4,5)=NONE rather(0)!BAD "
+        + "on(0,0,0)!BAD returns(0,0)!BAD returns(0,NONE)!BAD owed(0,0)=0 owed(0,1)=0 owed(1,1)=0 owed(0,2)=0 "
+      + "lightest(0)=0 disputed()=0 write(0,0)!BAD count(5)=0 count(6)=0 count(7)=0 ";
   private static final String CLAIMED = "claim(0,0,9) claim(3,0,9) claim(4,0,8) sheet(0,0,6) ";
 
   private static void asIfEmpty() {
     Script.run("Terms, an empty BOOK has no YEAR", CLAIMED + CALLS_OF_NO_YEAR);
-    Script.run("Terms, with a FAULT it is as if it was empty", CLAIMED + "text(120354) count(0)=1 home(3)=0 disputed()=2 "
-        + "type(59)=7" + CALLS_OF_NO_YEAR + "fault()=7 count(1)=7 text(012345)=13 count(0)=2 home(3)=0 disputed()=2 borne(4,0)=5");
+    Script.run("Terms, with a FAULT it is as if it was empty", CLAIMED + "text(120354) count(0)=1 home(3)=0 "
+        + "disputed()=2 "
+        + "type(59)=7" + CALLS_OF_NO_YEAR + "fault()=7 count(1)=7 text(012345)=13 count(0)=2 home(3)=0 disputed()=2 "
+        + "borne(4,0)=5");
     Script.run("Terms, but its bytes are there", "text(120354;) count(1)=7 type(48)=8 wipe()=8 wipe()=0");
   }
 
@@ -257,7 +264,8 @@ public final class EdgesOfBookTest {
   }
 
   private static void readSemicolon() {
-    Script.run("8 no ; ahead of the first", "fill(0,0,0,1,2,3,4,5) read(0)=6 read(0)=13 wipe()=13 read(0)=6 fault()=NONE");
+    Script.run("8 no ; ahead of the first", "fill(0,0,0,1,2,3,4,5) read(0)=6 read(0)=13 wipe()=13 read(0)=6 "
+        + "fault()=NONE");
     Script.run("8 ; if there are bytes, also with a FAULT", "fill(0,0,0,1,2,3,4,5) type(48) read(0)=8 fault()=1 wipe() "
         + "text(012345;) read(0)=14 fault()=7");
   }
@@ -270,8 +278,8 @@ public final class EdgesOfBookTest {
   }
 
   private static void readOrderOfRefusals() {
-    Script.run("8 BAD; NULL; NOT; FULL", "bytes(90,120) fill(0,0,0,1,2,3,4) fill(1,0,0,1,2,3,4,4) fill(2,0,0,1,2,3,4,5) "
-        + "read(4)!BAD read(-1)!BAD read(3)!NULL read(0)!NOT read(1)!NOT read(2)!FULL");
+    Script.run("8 BAD; NULL; NOT; FULL", "bytes(90,120) fill(0,0,0,1,2,3,4) fill(1,0,0,1,2,3,4,4) "
+        + "fill(2,0,0,1,2,3,4,5) read(4)!BAD read(-1)!BAD read(3)!NULL read(0)!NOT read(1)!NOT read(2)!FULL");
   }
 
   private static void readThirteenth() {

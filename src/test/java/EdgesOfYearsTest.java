@@ -2,7 +2,8 @@
 public final class EdgesOfYearsTest {
   private static final String TWELVE = "text(" + Script.years(12) + ")";
   /** Each HULL bears each NAME once in the first six YEARS; in the later six it all comes again. */
-  private static final String AROUND = "text(012345;123450;234501;345012;450123;501234;012345;123450;234501;345012;450123;501234)";
+  private static final String AROUND = "text(012345;123450;234501;345012;450123;501234;"
+      + "012345;123450;234501;345012;450123;501234)";
 
   public static void main(String[] args) {
     shipsAreSix();
@@ -65,8 +66,10 @@ public final class EdgesOfYearsTest {
   /** HULL 3 as NAME 4, at the edge of fitting: each YEAR's FEE goes to the PURSE or to the DEBT, never to both. */
   private static void feeOrDebt() {
     Script.run("Part 2, it FITS just so", "text(012435) name(4,0,4) purse(3,1)=5 debt(4,1,0)=0 debt(4,1,1)=0");
-    Script.run("Part 2, too slow by 1", "text(012435) name(4,0,5) purse(3,1)=0 debt(4,1,0)=5 debt(4,1,1)=1 debt(3,1,0)=0");
-    Script.run("Part 2, too small by 1", "text(012435) name(4,1,6) purse(3,1)=0 debt(4,1,0)=5 debt(4,1,1)=1 debt(3,1,1)=0");
+    Script.run("Part 2, too slow by 1", "text(012435) name(4,0,5) purse(3,1)=0 debt(4,1,0)=5 debt(4,1,1)=1 "
+        + "debt(3,1,0)=0");
+    Script.run("Part 2, too small by 1", "text(012435) name(4,1,6) purse(3,1)=0 debt(4,1,0)=5 debt(4,1,1)=1 "
+        + "debt(3,1,1)=0");
     Script.run("Part 2, a FEE of 0", "text(012435) name(4,2,0) purse(3,1)=0 debt(4,1,1)=0 name(4,1,6) purse(3,1)=0 "
         + "debt(4,1,0)=0 debt(4,1,1)=1");
   }
@@ -82,14 +85,15 @@ public final class EdgesOfYearsTest {
   private static void leastAndMostEarned() {
     Script.run("10 the most", AROUND + eachName(0, 1) + eachName(2, 9) + "purse(0,12)=108 purse(5,12)=108 purse(5,1)=9 "
         + "purse(5,11)=99 count(5)=648 count(6)=0 count(7)=0");
-    Script.run("10 the least", AROUND + eachName(0, 1) + eachName(2, 0) + "purse(0,12)=0 count(5)=0 count(6)=0 count(7)=0");
+    Script.run("10 the least", AROUND + eachName(0, 1) + eachName(2, 0) + "purse(0,12)=0 count(5)=0 count(6)=0 "
+        + "count(7)=0");
   }
 
   private static void leastAndMostOwed() {
-    Script.run("11 the most", AROUND + eachName(0, 9) + eachName(2, 9) + "debt(0,12,0)=108 debt(5,12,1)=12 debt(5,11,0)=99 "
-        + "debt(5,11,1)=11 count(5)=0 count(6)=648 count(7)=72");
-    Script.run("11 the least DEBT, the most SHAME", AROUND + eachName(0, 9) + eachName(2, 0) + "debt(0,12,0)=0 debt(0,12,1)=12 "
-        + "count(6)=0 count(7)=72");
+    Script.run("11 the most", AROUND + eachName(0, 9) + eachName(2, 9) + "debt(0,12,0)=108 debt(5,12,1)=12 "
+        + "debt(5,11,0)=99 debt(5,11,1)=11 count(5)=0 count(6)=648 count(7)=72");
+    Script.run("11 the least DEBT, the most SHAME", AROUND + eachName(0, 9) + eachName(2, 0)
+        + "debt(0,12,0)=0 debt(0,12,1)=12 count(6)=0 count(7)=72");
   }
 
   private static void whatOfDebt() {
@@ -97,15 +101,15 @@ public final class EdgesOfYearsTest {
   }
 
   private static void beenBits() {
-    Script.run("12 each NAME more", AROUND + " been(0,0)=0 been(0,1)=1 been(0,2)=3 been(0,5)=31 been(0,6)=63 been(0,7)=63 "
-        + "been(0,12)=63 been(5,1)=32 been(5,2)=33");
+    Script.run("12 each NAME more", AROUND + " been(0,0)=0 been(0,1)=1 been(0,2)=3 been(0,5)=31 been(0,6)=63 "
+        + "been(0,7)=63 been(0,12)=63 been(5,1)=32 been(5,2)=33");
     Script.run("12 one NAME again and again", "text(012345;012345;012345) been(5,3)=32 been(0,3)=1");
   }
 
   private static void homeFirst() {
     Script.run("13 in the first YEAR", "text(021345;012345) home(0)=0 home(5)=0 home(1)=1");
-    Script.run("13 in the twelfth YEAR", "text(" + Script.years(11).replace("012345", "543210").replace("120354", "120534")
-        .replace("103254", "543210") + ") home(0)=NONE home(3)=NONE text(;012345) home(0)=11 home(3)=11 home(5)=11");
+    Script.run("13 in the twelfth YEAR", "text(" + "123450;".repeat(10) + "123450) home(0)=NONE home(3)=NONE "
+        + "text(;012345) home(0)=11 home(3)=11 home(5)=11");
     Script.run("13 the first of several", "text(123450;012345;012345) home(0)=1 home(5)=1");
   }
 
@@ -116,8 +120,8 @@ public final class EdgesOfYearsTest {
 
   private static void otherFirst() {
     Script.run("14 in the first YEAR", "text(102354;102354) other(0,1)=0 other(1,0)=0 other(4,5)=0 other(5,4)=0");
-    Script.run("14 in the twelfth YEAR", "text(012345;012345;012345;012345;012345;012345;012345;012345;012345;012345;012345) "
-        + "other(0,5)=NONE text(;512340) other(0,5)=11 other(5,0)=11");
+    Script.run("14 in the twelfth YEAR", "text(" + "012345;".repeat(10) + "012345) other(0,5)=NONE text(;512340) "
+        + "other(0,5)=11 other(5,0)=11");
   }
 
   private static void otherNone() {
